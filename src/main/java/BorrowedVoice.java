@@ -24,8 +24,10 @@ public final class BorrowedVoice {
 
     private final Reader reader = new Reader();
 
-    /** For each set of voices given away: the most that the people behind them can be fit. */
+    /** For each set of voices given away: the most that the people still without one can be fit. */
     private final int[] bestRest = new int[1 << MOST_PEOPLE];
+    /** For each such set: the voice that the next one has then. */
+    private final int[] bestNext = new int[1 << MOST_PEOPLE];
 
     private long above = 0;
     private long below = 1;
@@ -163,7 +165,7 @@ public final class BorrowedVoice {
         if (p != NONE && !isThere(p)) {
             return badByTen();
         }
-        fillBestRest();
+        findBest();
         return p == NONE ? bestRest[0] : bestVoiceOf(p);
     }
 
@@ -311,11 +313,15 @@ public final class BorrowedVoice {
         if (house.holder[v] != NONE) {
             return no();
         }
+        int aKeeps = house.fitNow(a);
+        int bKeeps = house.fitNow(b);
         int bits = 0;
         for (int pair = 0; pair < 4; pair++) {
             boolean aAsks = (pair & 1) != 0;
             boolean bAsks = (pair & 2) != 0;
-            if (isContent(a, b, v, aAsks, bAsks) && isContent(b, a, v, bAsks, aAsks)) {
+            int aByAsking = bAsks && b < a ? aKeeps : house.fitWith(a, v);
+            int bByAsking = aAsks && a < b ? bKeeps : house.fitWith(b, v);
+            if (isContent(aAsks, aByAsking, aKeeps) && isContent(bAsks, bByAsking, bKeeps)) {
                 bits |= 1 << pair;
             }
         }
@@ -470,52 +476,37 @@ public final class BorrowedVoice {
     }
 
     /** Voices are given to people in rising order, so a set's size tells whose turn it is. */
-    private void fillBestRest() {
+    private void findBest() {
         int all = (1 << house.people) - 1;
         bestRest[all] = 0;
         for (int given = all - 1; given >= 0; given--) {
-            int most = 0;
+            int p = Integer.bitCount(given);
+            int most = NONE;
             for (int v = 0; v < house.people; v++) {
                 if ((given >> v & 1) == 0) {
-                    most = Math.max(most, bestBy(given, v));
+                    int sum = house.fitWith(p, v) + bestRest[given | 1 << v];
+                    if (sum > most) {
+                        most = sum;
+                        bestNext[given] = v;
+                    }
                 }
             }
             bestRest[given] = most;
         }
     }
 
-    private int bestBy(int given, int v) {
-        return house.fitWith(Integer.bitCount(given), v) + bestRest[given | 1 << v];
-    }
-
     private int bestVoiceOf(int p) {
         int given = 0;
         for (int turn = 0; turn < p; turn++) {
-            given |= 1 << firstBestVoice(given);
+            given |= 1 << bestNext[given];
         }
-        return firstBestVoice(given);
+        return bestNext[given];
     }
 
-    /** Always the least voice by which the most can still be had: so the way is the first such one. */
-    private int firstBestVoice(int given) {
-        for (int v = 0; v < house.people; v++) {
-            if ((given >> v & 1) == 0 && bestBy(given, v) == bestRest[given]) {
-                return v;
-            }
-        }
-        return 0;
-    }
-
-    private boolean isContent(int one, int other, int v, boolean oneAsks, boolean otherAsks) {
-        return gain(one, other, v, oneAsks, otherAsks) >= gain(one, other, v, !oneAsks, otherAsks);
-    }
-
-    private int gain(int one, int other, int v, boolean oneAsks, boolean otherAsks) {
-        if (!oneAsks) {
-            return house.fitNow(one);
-        }
-        boolean has = !otherAsks || one < other;
-        return (has ? house.fitWith(one, v) : house.fitNow(one)) - 1;
+    /** Whether one who asks, or keeps, would not get more by doing otherwise. */
+    private static boolean isContent(boolean asks, int fitByAsking, int fitByKeeping) {
+        int gain = fitByAsking - 1;
+        return asks ? gain >= fitByKeeping : fitByKeeping >= gain;
     }
 
     private static long power(int base, int exponent) {
@@ -547,23 +538,19 @@ public final class BorrowedVoice {
         return (x * 1103515245L + 12345L) % 2147483648L;
     }
 
-    /** What a kind of voice sounds like and lets slip, each told by the kind that it is under. */
+    /** As which sort a kind of voice sounds, and how many words it lets slip. */
     private static final class Kinds {
         static final int PLAIN = 0, BASS = 1, TREBLE = 2, REMEMBERS = 3, OLD = 4, DOUBLE = 5;
         static final int HOW_MANY = 6;
 
         static int soundOf(int kind, int sort, int evening) {
             switch (kind) {
-                case BASS: return bassSound(sort);
+                case BASS: return Math.max(0, sort - 2);
                 case TREBLE:
                 case DOUBLE: return Math.min(HIGHEST_SORT, sort + 2);
-                case OLD: return Math.max(0, bassSound(sort) - (evening & 1));
+                case OLD: return Math.max(0, sort - 2 - evening % 2);
                 default: return sort;
             }
-        }
-
-        private static int bassSound(int sort) {
-            return Math.max(0, sort - 2);
         }
 
         static int wordsOf(int kind, int used) {

@@ -262,6 +262,10 @@ public final class PromisesTest {
         faultDue("counter  ", 9);
         faultDue("counte;", 0);
         faultDue("counters;", 0);
+        faultDue("counterz;", 0);
+        faultDue("acounter;", 0);
+        faultDue("counter{;", 7);
+        faultDue("counter`;", 7);
         faultDue(" Counter;", 1);
         faultDue("one 0 0 0;", 0);
         faultDue(";counter;", 0);
