@@ -493,6 +493,8 @@ public final class BoundsTest {
     // ---- IMAGES; promise 34
 
     private static void images() {
+        run("IMAGES keep NOTES: the last of 6", "one 0 5 5,", Script.times(5, "note 0 0 0 5 1"), "note 0 0 0 9 9, image 0",
+                "forget = 6,", Script.times(6, "note 0 0 0 5 1"), "is 0 = 1, from 0 = 1, count 4 = 6, is 0 = 0");
         run("IMAGES 0, 1 keep all", Script.SIX, Script.times(5, "note 1 2 3 4 5"), "image 1 = 1, counter = 6, from 1 = 1",
                 "count 0 = 6, count 1 = 3, count 2 = 1, count 3 = 3, count 4 = 6, count 5 = 4, note 0 0 0 0 0 = -4",
                 "is 0 = 1, is 1 = 0, about 5 0 = 5, about 4 1 = 9, of 4 0 = 0, about 0 2 = 1, about 0 3 = 3, about 0 4 = 3");
@@ -508,14 +510,16 @@ public final class BoundsTest {
                 "dumb = 0");
     }
 
-    /** All that an image keeps comes back, whatever was done between. */
+    /** All that an image keeps comes back, though every row of it was written over between. */
     private static void sameFrom(String house) {
         String kept = house + ", image 1";
-        String between = kept + ", evening 1, leave 1, lend 0 0, forget, note 0 0 0 0 0, counter, one 5 9 9, evening 5, from 1";
-        BorrowedVoice x = Script.after(between);
+        String other = ", forget, counter, one 5 1 8, one 4 2 7, one 3 3 6, one 2 4 5, one 1 5 4, one 0 6 3, "
+                + Script.times(6, "note 5 7 7 7 7") + ", " + ALL_DUMB + ", lend 5 0, lend 4 1, lend 3 2, lend 2 3, "
+                + "lend 1 4, lend 0 5, " + Script.times(8, "evening 7") + ", from 1";
+        BorrowedVoice x = Script.after(kept + other);
         BorrowedVoice twin = Script.after(kept);
         due.is("all as it was from an IMAGE behind " + house, x.digest(), twin.digest());
-        for (int i = 0; i < 8; i++) {
+        for (int i = 0; i < 9; i++) {
             due.is("undone from an IMAGE", x.undo(), twin.undo());
             due.is("as it was then, from an IMAGE", x.digest(), twin.digest());
         }

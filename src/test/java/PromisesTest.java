@@ -1,4 +1,4 @@
-/** For each promise of the document: ordinary inputs, the edges that it names, wrong inputs. */
+/** For each promise of the document: ordinary inputs, the edges that it names, wrong inputs. Faults are FaultsTest's. */
 public final class PromisesTest {
     private static final int NONE = BorrowedVoice.NONE, BAD = BorrowedVoice.BAD, NO = BorrowedVoice.NO,
             FULL = BorrowedVoice.FULL;
@@ -15,7 +15,6 @@ public final class PromisesTest {
         type();
         clear();
         readItems();
-        readFaults();
         readReplaces();
         lend();
         leave();
@@ -93,17 +92,6 @@ public final class PromisesTest {
 
     private static void readDue(String text, int want) {
         due.is("read of '" + text + "'", readText(new BorrowedVoice(), text), want);
-    }
-
-    private static void faultDue(String text, int fault) {
-        BorrowedVoice x = plain(2);
-        x.evening(3);
-        readText(x, "");
-        long before = x.digest();
-        due.is("read of '" + text + "'", readText(x, text), -10 - fault);
-        x.clear();
-        due.is("digest behind a fault in '" + text + "'", x.digest(), before);
-        due.is("status behind a fault", x.status(0) + x.status(1) + x.status(2), 0);
     }
 
     /** Something that is refused changes nothing but the one status. */
@@ -253,63 +241,6 @@ public final class PromisesTest {
         String longest = "counter;" + "one 0 0 0;leave 0;" + "lend 0 0;leave 0;".repeat(7);
         longest = longest + " ".repeat(150 - longest.length());
         due.is("a text of 150 bytes", readText(x, longest), 17);
-    }
-
-    private static void readFaults() {
-        faultDue("", 0);
-        faultDue("   ", 3);
-        faultDue("counter", 7);
-        faultDue("counter  ", 9);
-        faultDue("counte;", 0);
-        faultDue("counters;", 0);
-        faultDue("counterz;", 0);
-        faultDue("acounter;", 0);
-        faultDue("counter{;", 7);
-        faultDue("counter`;", 7);
-        faultDue(" Counter;", 1);
-        faultDue("one 0 0 0;", 0);
-        faultDue(";counter;", 0);
-        faultDue("1", 0);
-        faultDue("counter 1;", 8);
-        faultDue("counter;;", 8);
-        faultDue("counter; counter;", 9);
-        faultDue("counter;two", 8);
-        faultDue("counter;12;", 8);
-        faultDue("counter;one", 11);
-        faultDue("counter;one ;", 12);
-        faultDue("counter;one 6 0 0;", 12);
-        faultDue("counter;one 5 10 0;", 14);
-        faultDue("counter;one 5 9 10;", 16);
-        faultDue("counter;one 5 9 9", 17);
-        faultDue("counter;one 5 9 9 ", 18);
-        faultDue("counter;one 5 9 9 1;", 18);
-        faultDue("counter;one 5 9 9 one", 18);
-        faultDue("counter;one 000 0 0;", 12);
-        faultDue("counter;one 0 0 1234567890123;", 16);
-        faultDue("counter;one 0 0 0000", 16);
-        faultDue("counter;one 0 x 0;", 14);
-        faultDue("counter;one 0 -1 0;", 14);
-        faultDue("counter;one 0 0 0\n;", 17);
-        faultDue("counter;one 0\t0 0;", 13);
-        faultDue("counter;one 0 0 0;/", 18);
-        faultDue("counter;one 0 0 0;:", 18);
-        faultDue("counter;one 0 0 0;`", 18);
-        faultDue("counter;one 0 0 0;{", 18);
-        faultDue("counter;leave 0;", 14);
-        faultDue("counter;leave", 13);
-        faultDue("counter;one 0 0 0;leave 1;", 24);
-        faultDue("counter;one 0 0 0;leave 0;leave 0;", 32);
-        faultDue("counter;one 0 0 0;leave 0", 25);
-        faultDue("counter;lend 0 0;", 13);
-        faultDue("counter;one 0 0 0;lend 0 0;", 23);
-        faultDue("counter;one 0 0 0;leave 0;lend 1 0;", 31);
-        faultDue("counter;one 0 0 0;leave 0;lend 0 1;", 33);
-        faultDue("counter;one 0 0 0;leave 0;lend 0;", 32);
-        faultDue("counter;one 0 0 0;leave 0;lend 0 0 0;", 35);
-        faultDue("counter;one 0 0 0;leave 0;lend 0 0;lend 0 0;", 40);
-        String six = "counter;" + "one 0 0 0;".repeat(6);
-        faultDue(six + " one 6 0 0;", 69);
-        faultDue(six + "ones", 68);
     }
 
     private static void readReplaces() {

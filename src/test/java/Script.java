@@ -1,5 +1,6 @@
 import java.util.ArrayList;
 import java.util.Arrays;
+import java.util.Collections;
 import java.util.List;
 
 /**
@@ -18,6 +19,10 @@ final class Script {
     static final String NOBODY = "one 5 9 9, one 2 1 1, leave 0, lend 0 1, evening 1, note 0 0 0 0 0, thieves 1 3, "
             + "image 0, counter, image 1, evening 2, " + typed("counter;one 1 1 1;");
 
+    /** What an object answers behind so many calls is free, so no run may be as long. */
+    private static final int MOST_CALLS = 512;
+    private static final int CALLS_TO_SEE_ALL = 100;
+
     private Script() {
     }
 
@@ -31,7 +36,7 @@ final class Script {
     }
 
     static String times(int n, String calls) {
-        return String.join(", ", java.util.Collections.nCopies(n, calls));
+        return String.join(", ", Collections.nCopies(n, calls));
     }
 
     static BorrowedVoice after(String run) {
@@ -42,7 +47,11 @@ final class Script {
     static BorrowedVoice run(Due due, String sentence, String... parts) {
         BorrowedVoice x = new BorrowedVoice();
         String done = "";
-        for (String call : String.join(", ", parts).split(" *,[ ,]*")) {
+        String[] calls = String.join(", ", parts).split(" *,[ ,]*");
+        if (calls.length + CALLS_TO_SEE_ALL > MOST_CALLS) {
+            throw new IllegalArgumentException("too many calls: " + calls.length);
+        }
+        for (String call : calls) {
             String[] sides = call.split(" = ");
             if (sides[0].isEmpty()) {
                 continue;
